@@ -42,6 +42,7 @@ public final class PromiseTest {
         promiseGains();
         all();
         fair();
+        fairGreatLosses();
         barred();
         leftOpen();
         gifts();
@@ -308,6 +309,15 @@ public final class PromiseTest {
         }
         no("one more", x.clash(0, 1, 0, 0, 1, 0));
         due("count", x.count(3), 40);
+        TreeTalk y = tree(30);
+        y.matter(2, 2);
+        due("words without a clash", y.talk(0, 3), 0);
+        for (int i = 0; i < 40; i++) {
+            yes("all in one matter", y.clash(0, 0, 0, 0, 1, 0));
+        }
+        due("words with a clash", y.talk(0, 3), 1);
+        due("40 clashes in one matter", y.bear(0, 0, 1), 1);
+        due("all", y.all(0, NONE), 3);
     }
 
     private static void bearing() {
@@ -440,16 +450,11 @@ public final class PromiseTest {
         write(x, "n:1;");
         x.fault(1);
         due("stays", x.count(9), 4);
-        StringBuilder longest = new StringBuilder("c:0");
-        for (int i = 0; i < 39; i++) {
-            longest.append(";n:").append(i % 10);
-        }
-        due("as many clauses as can be", fault(longest.toString(), 1), NONE);
-        due("its last clause", orThrows(() -> {
-            TreeTalk y = new TreeTalk();
-            mind(y, longest.toString().replace("n", "c").replace(";c:8", ";n:8"));
-            return y.worth(0, 'n', 0, 0, 0, 0, 0);
-        }), 8);
+        String longest = "c:0;".repeat(39) + "n:8";
+        due("as many clauses as can be", fault(longest, 1), NONE);
+        due("its last clause", worth(longest, 'n', 0, 0, 0, 0, 0), 8);
+        String deep = "n:" + "h+".repeat(78) + "1";
+        due("as many atoms as can be", worth(deep, 'n', 1, 0, 0, 0, 0), 79);
     }
 
     private static void fullShelves() {
@@ -719,6 +724,17 @@ public final class PromiseTest {
             dueTalk("over by d:" + last[0], z, 0, 1, last[1]);
             due("words", z.talk(0, 3), last[1]);
         }
+        // each day all eight speak, and one of them of a part that it has not spoken of
+        TreeTalk v = tree(20, 20, 20, 20, 20, 20, 20, 20);
+        v.matter(5, 4);
+        m = mind(v, "n:a=[t-1]/4&q=[t-1]-[t-1]/4*4?1;n:a=[t-1]/4?0;n:q=4?1;n:0;c:w+1");
+        for (int e = 0; e < 8; e++) {
+            v.minded(e, m);
+        }
+        v.by(0, law(v, "s:1"));
+        due("as many words as can be", v.talk(0, 3), 240);
+        due("the last one", orThrows(() -> v.said(0, 239, 1) * 10 + v.said(0, 239, 0)), 307);
+        due("one more", orThrows(() -> v.said(0, 240, 0)), THROWS);
     }
 
     private static void speaking() {
@@ -977,6 +993,26 @@ public final class PromiseTest {
         due("none", x.fair(0), NONE);
         x.left(2, true);
         due("who left", x.fair(0) == NONE ? 0 : 1, 1);
+    }
+
+    /** Of two proposals one, with losses 36 0 0, is worse than the other, with losses 35 35 0. */
+    private static void fairGreatLosses() {
+        TreeTalk x = tree(30, 40, 50, 60);
+        x.matter(4, 2);
+        for (int p = 0; p < 4; p++) {
+            x.hold(0, 0, p, 1, 2);
+            x.care(0, 0, p, 9);
+            for (int e = 1; e < 3; e++) {
+                x.hold(e, 0, p, 0, 2);
+                x.care(e, 0, p, p == 0 ? 8 : 9);
+            }
+        }
+        for (int p = 0; p < 3; p++) {
+            x.clash(3, 0, p, 0, p + 1, 1);
+            x.clash(3, 0, p, 1, p + 1, 0);
+        }
+        due("two", x.all(0, NONE), 2);
+        due("great losses", x.fair(0), 85);
     }
 
     private static void barred() {

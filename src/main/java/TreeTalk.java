@@ -774,10 +774,6 @@ public final class TreeTalk {
             return sign != 0 && signs.indexOf((char) sign) >= 0;
         }
 
-        private static boolean isDigit(int sign) {
-            return sign >= '0' && sign <= '9';
-        }
-
         private void put(int sign, int value) {
             if (codeSize < code.length) {
                 code[codeSize] = sign | value << 8;
@@ -912,8 +908,8 @@ public final class TreeTalk {
 
         private boolean readAtom(int depth) {
             int sign = next();
-            if (isDigit(sign)) {
-                readNumber();
+            if (sign >= '0' && sign <= '9') {
+                put('0', readNumber(sign));
                 return true;
             }
             if (isIn(letters, sign)) {
@@ -933,13 +929,15 @@ public final class TreeTalk {
         }
 
         /** A fifth digit is left where it is: nothing that may follow a number begins with one. */
-        private void readNumber() {
+        private int readNumber(int first) {
             int value = 0;
-            for (int i = 0; i < MOST_DIGITS && at < tape.size && isDigit(tape.bytes[at]); i++) {
-                value = value * 10 + tape.bytes[at] - '0';
+            int sign = first;
+            for (int i = 0; i < MOST_DIGITS && sign >= '0' && sign <= '9'; i++) {
+                value = value * 10 + sign - '0';
                 at++;
+                sign = at < tape.size ? tape.bytes[at] : 0;
             }
-            put('0', value);
+            return value;
         }
     }
 
@@ -960,50 +958,52 @@ public final class TreeTalk {
             }
         }
 
+        /** The sum of the first clause of the label whose condition holds or that has none. */
         long weigh(Text text, int label) {
             if (text == null) {
                 return NO_WORTH;
             }
             int[] clauses = text.clauses;
-            for (int i = 0; i + Text.CLAUSE <= clauses.length; i += Text.CLAUSE) {
-                int begin = clauses[i + 1];
-                int sum = clauses[i + 2];
-                if (clauses[i] == label && (begin == sum || valueOf(text.code, begin, sum) != 0)) {
-                    return valueOf(text.code, sum, clauses[i + 3]);
+            for (int c = 0; c + Text.CLAUSE <= clauses.length; c += Text.CLAUSE) {
+                boolean holds = clauses[c] == label;
+                int top = 0;
+                for (int i = clauses[c + 1]; holds && i < clauses[c + 3]; i++) {
+                    if (i == clauses[c + 2] && top > 0) {
+                        // the condition lies before the sum, and its truth on the stack
+                        holds = stack[0] != 0;
+                        top = 0;
+                    }
+                    top = step(text.code[i], top);
+                }
+                if (holds) {
+                    return stack[0];
                 }
             }
             return NO_WORTH;
         }
 
-        /** Truths are 1 and 0 here. The stack cannot run over: it has room for all the code of a text. */
-        private int valueOf(int[] code, int from, int end) {
-            int top = 0;
-            for (int i = from; i < end; i++) {
-                int sign = code[i] & 255;
-                int value = code[i] >> 8;
-                if (sign == '0') {
-                    stack[top] = value;
-                    top++;
-                } else if (sign == 'a') {
-                    stack[top] = letters[value];
-                    top++;
-                } else if (sign == '!' && top >= 1) {
-                    stack[top - 1] = 1 - stack[top - 1];
-                } else if (top >= 2) {
-                    top--;
-                    stack[top - 1] = joined(sign, stack[top - 1], stack[top]);
-                }
+        /** Goes one step on in a code; answers how much is on the stack then. Truths are 1 and 0. */
+        private int step(int token, int top) {
+            int sign = token & 255;
+            if ((sign == '0' || sign == 'a') && top < stack.length) {
+                stack[top] = sign == '0' ? token >> 8 : letters[token >> 8];
+                return top + 1;
             }
-            return stack[0];
-        }
-
-        private static int joined(int sign, int one, int other) {
+            if (sign == '!' && top >= 1) {
+                stack[top - 1] = 1 - stack[top - 1];
+                return top;
+            }
+            if (top < 2) {
+                return top;
+            }
+            long one = stack[top - 2];
+            long other = stack[top - 1];
             long value;
             switch (sign) {
-                case '+': value = (long) one + other; break;
-                case '-': value = (long) one - other; break;
-                case '*': value = (long) one * other; break;
-                case '/': value = other == 0 ? 0 : (long) one / other; break;
+                case '+': value = one + other; break;
+                case '-': value = one - other; break;
+                case '*': value = one * other; break;
+                case '/': value = other == 0 ? 0 : one / other; break;
                 case '=': value = one == other ? 1 : 0; break;
                 case '<': value = one < other ? 1 : 0; break;
                 case '>': value = one > other ? 1 : 0; break;
@@ -1011,9 +1011,10 @@ public final class TreeTalk {
                 default: value = one | other; break;
             }
             if (value > GREATEST) {
-                return GREATEST;
+                value = GREATEST;
             }
-            return value < -GREATEST ? -GREATEST : (int) value;
+            stack[top - 2] = value < -GREATEST ? -GREATEST : (int) value;
+            return top - 1;
         }
     }
 
@@ -1122,7 +1123,7 @@ public final class TreeTalk {
             }
             for (int part = 0; part < matter.parts; part++) {
                 tellLook(elder, ahead, part);
-                boolean no = saysNo(circle.mindOf[elder], elder, part);
+                boolean no = isNo(scale.weigh(circle.mindOf[elder], 'n'), elder, part);
                 if (elder == watched) {
                     sift(elder, part, no);
                 }
@@ -1170,8 +1171,8 @@ public final class TreeTalk {
             return sum;
         }
 
-        private boolean saysNo(Text mind, int elder, int part) {
-            long worth = scale.weigh(mind, 'n');
+        /** Whether one says no whose mind's worth of n is this. */
+        private boolean isNo(long worth, int elder, int part) {
             if (worth != Scale.NO_WORTH) {
                 return worth != 0;
             }
@@ -1180,7 +1181,7 @@ public final class TreeTalk {
 
         private void sift(int elder, int part, boolean no) {
             for (int i = 0; i < MOST_TEXTS; i++) {
-                if ((suspects >> i & 1) != 0 && saysNo(minds[i], elder, part) != no) {
+                if ((suspects >> i & 1) != 0 && isNo(scale.weigh(minds[i], 'n'), elder, part) != no) {
                     suspects &= ~(1 << i);
                 }
             }
