@@ -465,8 +465,11 @@ public final class TreeTalk {
 
     private void settle(int last) {
         for (int i = settledCount; i <= last && i < matterCount; i++) {
-            pledges.weighBefore(i, talks[i].gains);
-            talks[i].run(matters[i]);
+            Matter its = matterAt(i);
+            if (its != null) {
+                pledges.weighBefore(i, talks[i].gains);
+                talks[i].run(its);
+            }
             settledCount = i + 1;
         }
     }
