@@ -995,16 +995,16 @@ public final class PromiseTest {
         due("who left", x.fair(0) == NONE ? 0 : 1, 1);
     }
 
-    /** Of two proposals one, with losses 36 0 0, is worse than the other, with losses 35 35 0. */
+    /** Of two proposals one, with losses 35 0 0, is worse than the other, with losses 34 34 0. */
     private static void fairGreatLosses() {
         TreeTalk x = tree(30, 40, 50, 60);
         x.matter(4, 2);
         for (int p = 0; p < 4; p++) {
             x.hold(0, 0, p, 1, 2);
-            x.care(0, 0, p, 9);
+            x.care(0, 0, p, p == 0 ? 8 : 9);
             for (int e = 1; e < 3; e++) {
                 x.hold(e, 0, p, 0, 2);
-                x.care(e, 0, p, p == 0 ? 8 : 9);
+                x.care(e, 0, p, p < 2 ? 8 : 9);
             }
         }
         for (int p = 0; p < 3; p++) {
@@ -1012,6 +1012,8 @@ public final class PromiseTest {
             x.clash(3, 0, p, 1, p + 1, 0);
         }
         due("two", x.all(0, NONE), 2);
+        due("loss by way 0", x.loss(0, 0, 0), 35);
+        due("loss by way 1", x.loss(1, 0, 85), 34);
         due("great losses", x.fair(0), 85);
     }
 
@@ -1069,6 +1071,25 @@ public final class PromiseTest {
             x.hold(0, 0, p, 1, 0);
         }
         due("all parts", x.open(0), 15);
+        TreeTalk y = tree(30);
+        y.matter(3, 2);
+        clashAll(y, 0, 2);
+        clashAll(y, 1, 2);
+        due("part 2, not 0 and 1", y.open(0), 4);
+        y.matter(4, 2);
+        clashAll(y, 1, 0, 1);
+        clashAll(y, 1, 0, 2);
+        clashAll(y, 1, 3, 1);
+        clashAll(y, 1, 3, 2);
+        due("parts 0 and 3, not 1 and 2", y.open(1), 9);
+    }
+
+    /** No way of one part of a matter (the first, if none is told) with any way of another one. */
+    private static void clashAll(TreeTalk x, int... where) {
+        int n = where.length;
+        for (int i = 0; i < 4; i++) {
+            x.clash(0, n == 3 ? where[0] : 0, where[n - 2], i / 2, where[n - 1], i % 2);
+        }
     }
 
     private static void gifts() {
