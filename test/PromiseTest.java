@@ -1,14 +1,5 @@
-import java.util.NoSuchElementException;
-import java.util.function.IntSupplier;
-
 /** For each promise of the document what it says, at ordinary inputs, at its edges and at wrong inputs. */
-public final class PromiseTest {
-    private static final int NONE = TreeTalk.NONE;
-    private static final int[] WILD = {-1, -2, 1000, Integer.MIN_VALUE, Integer.MAX_VALUE};
-    private static final int THROWS = -77;
-    private static int promise;
-    private static int wrong;
-
+public final class PromiseTest extends Bench {
     private PromiseTest() {
     }
 
@@ -57,73 +48,11 @@ public final class PromiseTest {
         leans();
         mindsThatMayBe();
         counts();
-        System.out.println(wrong == 0 ? "all promises hold" : wrong + " answers are not as due");
-        if (wrong != 0) {
-            System.exit(1);
-        }
-    }
-
-    private static void due(String what, long got, long want) {
-        if (got != want) {
-            wrong++;
-            System.out.println("promise " + promise + ": " + what + " answered " + got + ", due is " + want);
-        }
-    }
-
-    private static void yes(String what, boolean got) {
-        due(what, got ? 1 : 0, 1);
-    }
-
-    private static void no(String what, boolean got) {
-        due(what, got ? 1 : 0, 0);
-    }
-
-    private static int orThrows(IntSupplier call) {
-        try {
-            return call.getAsInt();
-        } catch (NoSuchElementException e) {
-            return THROWS;
-        }
-    }
-
-    /** An object with elders of these ages. */
-    private static TreeTalk tree(int... ages) {
-        TreeTalk x = new TreeTalk();
-        for (int age : ages) {
-            x.elder(age);
-        }
-        return x;
-    }
-
-    private static void write(TreeTalk x, String text) {
-        x.end(0);
-        for (int at = 0; at < text.length(); at += 4) {
-            int number = 0;
-            for (int i = at; i < at + 4; i++) {
-                number = number << 8 | (i < text.length() ? text.charAt(i) : 0);
-            }
-            x.feed(number, 0, 0, 0, 0);
-        }
-    }
-
-    private static int mind(TreeTalk x, String text) {
-        write(x, text);
-        return x.mind();
-    }
-
-    private static int law(TreeTalk x, String text) {
-        write(x, text);
-        return x.law();
-    }
-
-    private static int fault(String text, int sort) {
-        TreeTalk x = new TreeTalk();
-        write(x, text);
-        return x.fault(sort);
+        endTest("all promises hold");
     }
 
     private static void newObject() {
-        promise = 1;
+        of = "promise 1";
         TreeTalk x = new TreeTalk();
         due("NONE", NONE, -1);
         due("place(0)", x.place(0), NONE);
@@ -133,7 +62,7 @@ public final class PromiseTest {
     }
 
     private static void elders() {
-        promise = 2;
+        of = "promise 2";
         TreeTalk x = new TreeTalk();
         due("elder(19)", x.elder(19), NONE);
         due("elder(100)", x.elder(100), NONE);
@@ -151,7 +80,7 @@ public final class PromiseTest {
     }
 
     private static void left() {
-        promise = 3;
+        of = "promise 3";
         TreeTalk x = tree(30, 40);
         for (int w : WILD) {
             no("left of none", x.left(w, true));
@@ -168,7 +97,7 @@ public final class PromiseTest {
     }
 
     private static void place() {
-        promise = 4;
+        of = "promise 4";
         TreeTalk x = tree(60, 30, 60, 20, 30);
         int[] want = {3, 1, 4, 0, 2};
         for (int i = 0; i < 5; i++) {
@@ -184,7 +113,7 @@ public final class PromiseTest {
     }
 
     private static void heed() {
-        promise = 5;
+        of = "promise 5";
         TreeTalk x = tree(30, 40);
         yes("heed 0", x.heed(0, 1, 0));
         yes("heed 9", x.heed(0, 1, 9));
@@ -208,7 +137,7 @@ public final class PromiseTest {
     }
 
     private static void matters() {
-        promise = 6;
+        of = "promise 6";
         TreeTalk x = new TreeTalk();
         due("matter(0, 2)", x.matter(0, 2), NONE);
         due("matter(6, 2)", x.matter(6, 2), NONE);
@@ -229,14 +158,14 @@ public final class PromiseTest {
     }
 
     private static void holds() {
-        promise = 7;
+        of = "promise 7";
         TreeTalk x = tree(30);
         x.matter(2, 3);
         for (int v = 0; v <= 2; v++) {
             yes("hold", x.hold(0, 0, 1, 2, v));
-            promise = 8;
+            of = "promise 8";
             due("held", x.held(0, 0, 1, 2), v);
-            promise = 7;
+            of = "promise 7";
         }
         no("hold 3", x.hold(0, 0, 1, 2, 3));
         no("hold -1", x.hold(0, 0, 1, 2, -1));
@@ -250,7 +179,7 @@ public final class PromiseTest {
         }
         no("hold part 2", x.hold(0, 0, 2, 0, 1));
         no("hold way 3", x.hold(0, 0, 0, 3, 1));
-        promise = 8;
+        of = "promise 8";
         due("at first", x.held(0, 0, 0, 0), 1);
         for (int w : WILD) {
             due("no elder", x.held(w, 0, 0, 0), NONE);
@@ -268,7 +197,7 @@ public final class PromiseTest {
     }
 
     private static void cares() {
-        promise = 9;
+        of = "promise 9";
         TreeTalk x = tree(30);
         x.matter(2, 2);
         x.hold(0, 0, 1, 1, 2);
@@ -287,7 +216,7 @@ public final class PromiseTest {
     }
 
     private static void clashes() {
-        promise = 10;
+        of = "promise 10";
         TreeTalk x = tree(30, 40);
         x.matter(2, 2);
         x.matter(2, 2);
@@ -321,7 +250,7 @@ public final class PromiseTest {
     }
 
     private static void bearing() {
-        promise = 11;
+        of = "promise 11";
         TreeTalk x = tree(30, 40);
         x.matter(3, 3);
         x.hold(0, 0, 2, 1, 0);
@@ -345,7 +274,7 @@ public final class PromiseTest {
     }
 
     private static void losses() {
-        promise = 12;
+        of = "promise 12";
         TreeTalk x = tree(30);
         x.matter(3, 3);
         x.care(0, 0, 0, 5);
@@ -371,7 +300,7 @@ public final class PromiseTest {
     }
 
     private static void feeding() {
-        promise = 13;
+        of = "promise 13";
         TreeTalk x = new TreeTalk();
         due("zeros", x.feed(0, 0, 0, 0, 0), 0);
         due("some", x.feed(0x6e003a00, 0, 0x31, 0, 0), 3);
@@ -399,7 +328,7 @@ public final class PromiseTest {
     }
 
     private static void ending() {
-        promise = 14;
+        of = "promise 14";
         TreeTalk x = new TreeTalk();
         yes("end(0) of nothing", x.end(0));
         no("end(1) of nothing", x.end(1));
@@ -417,7 +346,7 @@ public final class PromiseTest {
     }
 
     private static void faults() {
-        promise = 15;
+        of = "promise 15";
         TreeTalk x = new TreeTalk();
         for (int w : WILD) {
             due("fault(" + w + ")", x.fault(w), -2);
@@ -458,7 +387,7 @@ public final class PromiseTest {
     }
 
     private static void fullShelves() {
-        promise = 16;
+        of = "promise 16";
         TreeTalk x = new TreeTalk();
         due("of nothing", x.law(), NONE);
         write(x, "n:1");
@@ -471,7 +400,7 @@ public final class PromiseTest {
         due("ninth", law(x, "d:9"), NONE);
         due("stays", x.count(9), 3);
         due("laws", x.count(4), 8);
-        promise = 17;
+        of = "promise 17";
         due("minds", x.count(5), 0);
         write(x, "d:1");
         due("with a fault", x.mind(), NONE);
@@ -488,7 +417,7 @@ public final class PromiseTest {
     }
 
     private static void lawOfMatter() {
-        promise = 18;
+        of = "promise 18";
         TreeTalk x = tree(30);
         x.matter(1, 2);
         x.hold(0, 0, 0, 0, 0);
@@ -511,7 +440,7 @@ public final class PromiseTest {
     }
 
     private static void mindOfElder() {
-        promise = 19;
+        of = "promise 19";
         TreeTalk x = tree(30);
         x.matter(1, 2);
         x.hold(0, 0, 0, 0, 0);
@@ -533,12 +462,6 @@ public final class PromiseTest {
         due("without one again", x.talk(0, 3), 1);
     }
 
-    private static int worth(String text, int label, int... letters) {
-        TreeTalk x = new TreeTalk();
-        int m = mind(x, text);
-        return orThrows(() -> x.worth(m, label, letters[0], letters[1], letters[2], letters[3], letters[4]));
-    }
-
     private static int sum(String sum) {
         return worth("n:" + sum, 'n', 2, 3, 5, 7, 11);
     }
@@ -548,7 +471,7 @@ public final class PromiseTest {
     }
 
     private static void worths() {
-        promise = 20;
+        of = "promise 20";
         int[] wants = {2, 3, 5, 7, 11, 0, 0, 0, 0, 0};
         for (int i = 0; i < 10; i++) {
             due("letter " + "heotkaqwgf".charAt(i), sum("" + "heotkaqwgf".charAt(i)), wants[i]);
@@ -606,7 +529,7 @@ public final class PromiseTest {
     }
 
     private static void grounds() {
-        promise = 21;
+        of = "promise 21";
         TreeTalk x = tree(30);
         x.matter(2, 3);
         due("at first", x.talk(0, 2), 0);
@@ -621,14 +544,8 @@ public final class PromiseTest {
         yes("the same again", x.ground(0, 9));
     }
 
-    private static void dueTalk(String what, TreeTalk x, int matter, int... want) {
-        for (int i = 0; i < want.length; i++) {
-            due(what + ": talk(" + matter + ", " + i + ")", x.talk(matter, i), want[i]);
-        }
-    }
-
     private static void talks() {
-        promise = 22;
+        of = "promise 22";
         TreeTalk x = tree(30, 40);
         for (int w : WILD) {
             due("no matter", x.talk(w, 0), NONE);
@@ -670,20 +587,8 @@ public final class PromiseTest {
         dueTalk("the youngest back", z, 0, 0, 2, 3, 1);
     }
 
-    /** Two that can bear no way the other can, so that they speak day for day. */
-    private static TreeTalk quarrel(String law) {
-        TreeTalk x = tree(30, 40);
-        x.matter(1, 2);
-        x.hold(0, 0, 0, 0, 0);
-        x.hold(1, 0, 0, 1, 0);
-        if (law != null) {
-            x.by(0, law(x, law));
-        }
-        return x;
-    }
-
     private static void talkEndings() {
-        promise = 22;
+        of = "promise 22";
         dueTalk("round", quarrel(null), 0, 2, 2, 0, 4);
         dueTalk("over on day 1", quarrel("d:1"), 0, 1, 1, 0, 2);
         dueTalk("over is before round", quarrel("d:2"), 0, 1, 2, 0, 4);
@@ -738,7 +643,7 @@ public final class PromiseTest {
     }
 
     private static void speaking() {
-        promise = 22;
+        of = "promise 22";
         // without a law: less than three times
         TreeTalk x = tree(30);
         x.matter(4, 2);
@@ -797,7 +702,7 @@ public final class PromiseTest {
     }
 
     private static void lettersOfMinds() {
-        promise = 22;
+        of = "promise 22";
         String[] yes = {"n:h=2&q=0?1;n:0", "n:e=4?1;n:0", "n:o=0&e>0?1;n:0", "n:t=1?1;n:0", "n:k=0?1;n:0", "n:a=2?1;n:0", "n:f=1?1;n:0", "n:w=1?1;n:0",
             "n:g=1?1;n:0", "n:q=1?1;n:0", "n:0-1", "n:w=5?0;n:w"};
         for (String mind : yes) {
@@ -849,7 +754,7 @@ public final class PromiseTest {
     }
 
     private static void words() {
-        promise = 23;
+        of = "promise 23";
         TreeTalk x = tree(30, 20);
         x.matter(2, 3);
         x.hold(0, 0, 1, 0, 0);
@@ -876,7 +781,7 @@ public final class PromiseTest {
     }
 
     private static void promises() {
-        promise = 24;
+        of = "promise 24";
         TreeTalk x = tree(30, 40);
         x.matter(2, 2);
         no("to itself", x.promise(0, 0, 0, 0, 0));
@@ -892,7 +797,7 @@ public final class PromiseTest {
         }
         no("one more", x.promise(1, 0, 0, 0, 0));
         due("count", x.count(6), 20);
-        promise = 25;
+        of = "promise 25";
         due("kept", x.promised(0, true), 5);
         due("broken", x.promised(0, false), 15);
         due("kept of another", x.promised(1, true), 0);
@@ -918,7 +823,7 @@ public final class PromiseTest {
     }
 
     private static void promiseGains() {
-        promise = 24;
+        of = "promise 24";
         TreeTalk x = tree(30, 40);
         x.matter(1, 2);
         x.matter(1, 2);
@@ -939,7 +844,7 @@ public final class PromiseTest {
     }
 
     private static void all() {
-        promise = 26;
+        of = "promise 26";
         TreeTalk x = tree(30, 40);
         x.matter(2, 3);
         due("all", x.all(0, NONE), 9);
@@ -964,7 +869,7 @@ public final class PromiseTest {
     }
 
     private static void fair() {
-        promise = 27;
+        of = "promise 27";
         TreeTalk x = tree(30, 40, 50);
         x.matter(2, 4);
         for (int w : WILD) {
@@ -1018,7 +923,7 @@ public final class PromiseTest {
     }
 
     private static void barred() {
-        promise = 28;
+        of = "promise 28";
         TreeTalk x = tree(30, 40, 50, 60);
         x.matter(1, 3);
         for (int w : WILD) {
@@ -1044,7 +949,7 @@ public final class PromiseTest {
     }
 
     private static void leftOpen() {
-        promise = 29;
+        of = "promise 29";
         TreeTalk x = tree(30, 40);
         x.matter(4, 2);
         for (int w : WILD) {
@@ -1093,7 +998,7 @@ public final class PromiseTest {
     }
 
     private static void gifts() {
-        promise = 30;
+        of = "promise 30";
         TreeTalk x = tree(30);
         x.matter(2, 2);
         x.matter(1, 3);
@@ -1118,7 +1023,7 @@ public final class PromiseTest {
     }
 
     private static void trades() {
-        promise = 31;
+        of = "promise 31";
         TreeTalk x = tree(30, 40);
         x.matter(2, 2);
         x.matter(2, 3);
@@ -1184,7 +1089,7 @@ public final class PromiseTest {
     }
 
     private static void hands() {
-        promise = 32;
+        of = "promise 32";
         TreeTalk x = tree(30, 40, 50);
         x.matter(1, 4);
         for (int w : WILD) {
@@ -1217,7 +1122,7 @@ public final class PromiseTest {
     }
 
     private static void asides() {
-        promise = 33;
+        of = "promise 33";
         TreeTalk x = tree(30, 40);
         x.matter(2, 2);
         no("to nobody", x.aside(0, 0, 0, 0, 0, true));
@@ -1241,7 +1146,7 @@ public final class PromiseTest {
     }
 
     private static void taken() {
-        promise = 34;
+        of = "promise 34";
         TreeTalk x = tree(30, 40, 50);
         x.matter(2, 2);
         x.matter(2, 2);
@@ -1285,7 +1190,7 @@ public final class PromiseTest {
     }
 
     private static void twice() {
-        promise = 35;
+        of = "promise 35";
         TreeTalk x = tree(30, 40, 50);
         x.matter(1, 3);
         for (int w : WILD) {
@@ -1317,7 +1222,7 @@ public final class PromiseTest {
     }
 
     private static void mistaken() {
-        promise = 36;
+        of = "promise 36";
         TreeTalk x = tree(30, 40);
         x.matter(2, 3);
         for (int w : WILD) {
@@ -1340,7 +1245,7 @@ public final class PromiseTest {
     }
 
     private static void about() {
-        promise = 37;
+        of = "promise 37";
         TreeTalk x = tree(30, 40);
         x.matter(2, 2);
         for (int w : WILD) {
@@ -1370,7 +1275,7 @@ public final class PromiseTest {
     }
 
     private static void back() {
-        promise = 38;
+        of = "promise 38";
         TreeTalk x = tree(30, 40);
         x.matter(1, 3);
         for (int w : WILD) {
@@ -1421,7 +1326,7 @@ public final class PromiseTest {
     }
 
     private static void leans() {
-        promise = 39;
+        of = "promise 39";
         TreeTalk x = tree(20, 30, 40);
         x.matter(2, 3);
         for (int w : WILD) {
@@ -1462,7 +1367,7 @@ public final class PromiseTest {
     }
 
     private static void mindsThatMayBe() {
-        promise = 40;
+        of = "promise 40";
         TreeTalk x = tree(30, 40);
         x.matter(2, 2);
         for (int w : WILD) {
@@ -1499,7 +1404,7 @@ public final class PromiseTest {
     }
 
     private static void counts() {
-        promise = 41;
+        of = "promise 41";
         TreeTalk x = tree(30, 40, 50);
         x.left(1, true);
         x.matter(2, 2);
