@@ -946,7 +946,8 @@ public final class TreeTalk {
 
     /** Weighs the labels of texts, by letters that are told first. */
     static final class Scale {
-        static final long NO_WORTH = Long.MIN_VALUE;
+        /** Beyond every int, so that no worth is like it. */
+        static final long NO_WORTH = 1L << 40;
         private static final int GREATEST = 1_000_000;
         private final int[] letters = new int[26];
         private final int[] stack = new int[MOST_BYTES];
